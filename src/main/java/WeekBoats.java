@@ -1612,6 +1612,10 @@ public final class WeekBoats {
         private final int[] boatAt = new int[ASKED_BOATS];
         private final int[] boatWeek = new int[ASKED_BOATS];
         private int asked;
+        /** For how many boats the best way is known already: 0, if it has to be looked for. */
+        private int settled;
+        /** From each place in the order on, how many bookings some boat may be given at all. */
+        private final int[] hope = new int[BOOKINGS + 1];
         private final int[] boatOf = new int[BOOKINGS];
         final int[] bestBoat = new int[BOOKINGS];
         int bestServed;
@@ -1626,6 +1630,7 @@ public final class WeekBoats {
             this.week[count] = week;
             this.berths[count] = berths;
             count++;
+            settled = 0;
             putInOrder();
             return count - 1;
         }
@@ -1643,24 +1648,53 @@ public final class WeekBoats {
         }
 
         void hire(int boat, int berths, int home) {
+            if (boatBerths[boat] != berths || boatHome[boat] != home) {
+                settled = 0;
+            }
             boatBerths[boat] = berths;
             boatHome[boat] = home;
         }
 
         void giveBest(int boats) {
+            if (boats == settled) {
+                return;
+            }
             asked = Math.min(boats, ASKED_BOATS);
+            settled = boats;
             bestServed = NONE;
             bestHome = NONE;
             for (int boat = 0; boat < asked; boat++) {
                 boatAt[boat] = boatHome[boat];
                 boatWeek[boat] = NONE;
             }
+            hope[count] = 0;
+            for (int i = count - 1; i >= 0; i--) {
+                hope[i] = hope[i + 1] + (canEverBeGiven(inOrder[i]) ? 1 : 0);
+            }
             giveNext(this, 0, 0);
+        }
+
+        private boolean canEverBeGiven(int booking) {
+            for (int boat = 0; boat < asked; boat++) {
+                if (boatBerths[boat] >= berths[booking] && canCome(boat, booking)) {
+                    return true;
+                }
+            }
+            return false;
+        }
+
+        /** Whether a boat can be where the booking begins: from home, or by one of an earlier week. */
+        private boolean canCome(int boat, int booking) {
+            boolean can = boatHome[boat] == from[booking];
+            for (int i = 0; i < count; i++) {
+                can |= week[i] < week[booking] && to[i] == from[booking];
+            }
+            return can;
         }
 
         /** Ways come in their order, so that only a better one takes the best one's place. */
         private static void giveNext(Bookings all, int i, int served) {
-            int hoped = served + all.count - i;
+            int hoped = served + all.hope[i];
             if (hoped < all.bestServed || hoped == all.bestServed && all.bestHome >= all.asked) {
                 return;
             }
@@ -1968,10 +2002,12 @@ public final class WeekBoats {
         void passDay(int use, int rain, int gain, int shut) {
             Arrays.fill(then, 0);
             for (int level = 0; level < LEVELS; level++) {
-                int wet = now[level] * rain / 100;
-                int low = Math.max(0, level - use);
-                then[Math.min(LEVELS - 1, low + gain)] += wet;
-                then[low] += now[level] - wet;
+                if (now[level] > 0) {
+                    int wet = now[level] * rain / 100;
+                    int low = Math.max(0, level - use);
+                    then[Math.min(LEVELS - 1, low + gain)] += wet;
+                    then[low] += now[level] - wet;
+                }
             }
             kept = 0;
             for (int level = 0; level < LEVELS; level++) {

@@ -98,6 +98,18 @@ public final class PromisesAshore {
         for (int i = 0; i < 4; i++) {
             due("the first of the best, " + i, x.lock(10 + i), first[i]);
         }
+        x.queue(0, -1);
+        x.queue(0, 1);
+        x.queue(0, 0);
+        x.queue(0, 0);
+        x.queue(0, 0);
+        due("lockfuls as they come", x.lock(2), 3);
+        due("the best begins with the second", x.lock(10), 1);
+        due("then the first", x.lock(11), 0);
+        due("lockfuls", x.lock(3), 2);
+        x.queue(0, -1);
+        x.queue(0, 1);
+        due("a new one", x.lock(10), 0);
         WeekBoats y = new WeekBoats();
         for (int i = 0; i < 7; i++) {
             y.queue(0, 1);
@@ -221,6 +233,13 @@ public final class PromisesAshore {
         x.booking(0, 7, 1, 2);
         x.booking(7, 0, 2, 2);
         due("one more later", x.more(2, 12, 7), 1);
+        due("four", x.given(4, 0), 4);
+        due("one of more berths", x.more(3, 9, 7), 1);
+        due("one of fewer", x.more(3, 4, 7), 0);
+        due("one of more again", x.more(3, 9, 7), 1);
+        due("one elsewhere", x.more(3, 9, 8), 0);
+        due("four still", x.given(4, 0), 4);
+        due("one is enough for one of the two", x.more(1, 4, 9), 0);
     }
 
     private static void promise30() {
@@ -373,6 +392,12 @@ public final class PromisesAshore {
         WeekBoats x = new WeekBoats();
         due("without weights", x.vans(0), 0);
         due("without weights", x.vans(1), 0);
+        x.weight(0, 5);
+        x.weight(1, 5);
+        due("0 and 1", x.vans(0), 1);
+        x.weight(0, 0);
+        due("point 1", x.van(0), 1);
+        x.weight(1, 0);
         x.weight(3, 5);
         due("the first couple", x.vans(0), 3);
         due("0 and 3", x.vans(1), 0);
@@ -427,6 +452,10 @@ public final class PromisesAshore {
         due("the second call", x.taken(0, 6, 11), 0);
         due("free again at 140, there at 170", x.taken(0, 6, 0), 0 + 30 + 50);
         due("done", x.taken(0, 6, 2), 175);
+        WeekBoats y = new WeekBoats();
+        y.call(0, 3, 5);
+        due("free from minute 0 on", y.taken(3, 3, 0), 0);
+        due("done", y.taken(3, 3, 2), 5);
         due("a", x.taken(-1, 0, 0), -1);
         due("a", x.taken(16, 0, 0), -1);
         due("b", x.taken(0, -1, 0), -1);

@@ -137,8 +137,9 @@ public final class PromisesRules {
         due("no day", x.stoppage(0, 0, 14), -1);
         due("none yet", x.look(5), 0);
         for (int n = 1; n <= 8; n++) {
-            due("stoppage " + n, x.stoppage(0, 0, n == 8 ? 13 : 0), n);
+            due("stoppage " + n, x.stoppage(n == 7 ? 14 : 0, 0, n == 8 ? 13 : 0), n);
         }
+        due("the last stretch", x.comes(0, 15, 14, 480), 1940);
         due("there are eight", x.stoppage(0, 0, 0), -1);
         due("still eight", x.look(5), 8);
         due("never", x.comes(0, 0, 1, 480), -1);
@@ -205,6 +206,8 @@ public final class PromisesRules {
         good(times("hold 1;", 16), 16);
         good("price 9999;", 1);
         good("price 0001;", 1);
+        good("hold 1" + times("+1", 246) + ";", 1);
+        good(times("\n", 493) + "hold 1;", 1);
         WeekBoats x = new WeekBoats();
         x.boat(2, 0, 0, 0);
         rules(x, "price 5;hold 6;");
@@ -248,6 +251,8 @@ public final class PromisesRules {
         faulty("locks 9 17 when 1 = 1 when 1 = 1;", 1, 22);
         faulty("tunnel 3 8 9;", 1, 9);
         faulty("tunnel up 8 9;", 1, 7);
+        faulty("tunnel 3;", 1, 8);
+        faulty("tunnel;", 1, 6);
         faulty("tunnel 3 up 8 9 when 1 = 1;", 1, 16);
         faulty("price;", 1, 5);
         faulty("price -1;", 1, 6);
@@ -255,6 +260,11 @@ public final class PromisesRules {
         faulty("price 1 +;", 1, 9);
         faulty("price 1 */ 2;", 1, 9);
         faulty("price 1 / day;", 1, 10);
+        faulty("price 1 /;", 1, 9);
+        faulty("price 1 *;", 1, 9);
+        faulty("price 1 when 1 = 1 or;", 1, 21);
+        faulty("price 1 when 1;2;", 1, 14);
+        faulty("price 1 when ();", 1, 14);
         faulty("price 1 2;", 1, 8);
         faulty("price 12345;", 1, 6);
         faulty("price 00001;", 1, 6);
@@ -386,6 +396,7 @@ public final class PromisesRules {
         value("0 * 1 - 7", -7);
         value("9999 * 9999 * 9999 * 9999", 9999 * 9999 * 9999 * 9999);
         value("9999 * 9999 * 99 / 7", 9999 * 9999 * 99 / 7);
+        value("1" + times("+1", 240), 241);
         value("age * 1000 + day + water + berths + away + taught", 10000);
     }
 

@@ -213,6 +213,16 @@ public final class PromisesWays {
         due("not beyond a stoppage", x.back(0, 0), 6);
         rules(x, "tunnel 5 up 8 9;");
         due("no way back", x.back(0, 0), 5);
+        WeekBoats y = new WeekBoats();
+        y.boat(4, 10, 0, 60);
+        y.trip(0, 5, 7, 480, 1979);
+        y.stoppage(6, 0, 0);
+        due("a stoppage on the way there: 7 at 1940, back at 1980", y.back(0, 0), 6);
+        y.stoppage(-1, 0, 0);
+        y.trip(0, 5, 6, 1190, 2000);
+        due("back at 1940", y.back(1, 0), 6);
+        y.stoppage(5, 1, 1);
+        due("a stoppage on the way back", y.back(1, 0), 5);
         due("k", x.back(-1, 0), NEVER);
         due("k", x.back(7, 0), NEVER);
         due("what", x.back(0, 2), NEVER);
@@ -264,6 +274,9 @@ public final class PromisesWays {
         due("comes heed them still", x.comes(0, 1, 2, 480), -1);
         x.stoppage(-1, 0, 0);
         due("none any more", x.rung(), 0);
+        x.trip(0, 3, 4, 480, 1939);
+        x.stoppage(3, 0, 0);
+        due("late by a minute", x.late(4) == 1 ? x.rung() : -5, 16);
         WeekBoats y = new WeekBoats();
         y.boat(4, 10, 0, 60);
         y.stoppage(0, 0, 0);
@@ -271,6 +284,9 @@ public final class PromisesWays {
             y.trip(0, 0, 1, 480, 500);
         }
         due("twenty", y.rung(), (1 << 20) - 1);
+        due("all late", y.late(-1), 20);
+        y.stoppage(-1, 0, 0);
+        due("none late", y.late(-1), 0);
     }
 
     private static void promise16and17() {
@@ -305,6 +321,9 @@ public final class PromisesWays {
         due("boat", x.pumped(1, 7, time, 0, 0), -1);
         due("point", x.pumped(0, -1, time, 0, 0), -1);
         due("time", x.pumped(0, 7, 20160, 0, 0), -1);
+        x.pump(0, true);
+        due("point 0", x.pumped(0, 1, 480, 0, 0), 0);
+        x.pump(0, false);
         x.stoppage(8, 0, 13);
         due("it comes to none", x.pumped(0, 7, 480, 0, 0), -1);
         due("nor is it full", x.pumped(0, 7, time, 0, 2), -1);
@@ -321,6 +340,7 @@ public final class PromisesWays {
         due("a minute less", x.enough(0, 0, 1, 480, 480 + 37 + 9 * 18 - 1), 43);
         due("55 and locks of 15", x.enough(0, 0, 1, 480, 480 + 55 + 9 * 15), 55);
         due("never so soon", x.enough(0, 0, 1, 480, 480 + 55 + 9 * 15 - 1), -1);
+        due("at night it can be long", x.enough(0, 0, 1, 0, 480 + 9 * 15), 55);
         due("at once", x.enough(0, 3, 3, 480, 480), 0);
         due("too late already", x.enough(0, 3, 3, 480, 479), -1);
         due("the last minute", x.enough(0, 3, 3, 20159, 20159), 0);
@@ -407,9 +427,22 @@ public final class PromisesWays {
         due("only up to 630", x.could(0, 8, 631, 649), 0);
         due("9 not", x.could(0, 9, 601, 680), 0);
         due("9 behind the last one", x.could(0, 9, 601, 690), 1);
+        x.stoppage(7, 1, 13);
+        due("8 still, on day 0", x.could(0, 8, 621, 649), 1);
+        x.stoppage(7, 0, 0);
+        due("there is a stoppage", x.could(0, 8, 621, 649), 0);
+        x.stoppage(-1, 0, 0);
         x.stretch(6, 9, 0, 5);
         due("a log to which it does not come in time", x.could(0, 5, 0, 599), 0);
         due("not even at home", x.could(0, 5, 0, 0), 0);
+        WeekBoats z = new WeekBoats();
+        z.boat(4, 10, 5, 60);
+        z.log(0, 6, 1190);
+        z.log(0, 5, 1950);
+        due("7 at 1210, and back by the next morning's 1940 at 5", z.could(0, 7, 1200, 1949), 0);
+        due("6 all the evening", z.could(0, 6, 1930, 1930), 1);
+        z.stoppage(5, 1, 1);
+        due("no way on to the next log", z.could(0, 6, 1200, 1949), 0);
         WeekBoats y = new WeekBoats();
         y.boat(4, 10, 5, 60);
         y.log(0, 3, 0);
@@ -434,6 +467,7 @@ public final class PromisesWays {
         due("two", x.whose(3, 0, 520, 0), 3);
         due("not sure", x.whose(3, 0, 520, 1), -1);
         due("all", x.whose(3, 0, 600, 0), 7);
+        due("one minute", x.whose(3, 500, 500, 0), 2);
         due("none", x.whose(3, 0, 499, 0), 0);
         due("nobody is", x.whose(3, 0, 499, 1), -1);
         due("what", x.whose(3, 0, 500, 2), -1);
@@ -467,6 +501,9 @@ public final class PromisesWays {
         due("ahead of it from home", x.tonight(489, 5), 1);
         due("the others", x.tonight(505, 16), 3);
         due("two", x.tonight(505, 17), 2);
+        WeekBoats y = new WeekBoats();
+        y.boat(4, 10, 1, 60);
+        due("the crowd at point 1", y.tonight(0, 16), 1);
         due("time", x.tonight(-1, 0), -1);
         due("time", x.tonight(20160, 0), -1);
         due("what", x.tonight(505, 18), -1);

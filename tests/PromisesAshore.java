@@ -20,6 +20,7 @@ public final class PromisesAshore {
         promise27();
         promise28();
         promise28Best();
+        promise28LaterIsBetter();
         promise29();
         promise30();
         promise31();
@@ -240,6 +241,36 @@ public final class PromisesAshore {
         due("one elsewhere", x.more(3, 9, 8), 0);
         due("four still", x.given(4, 0), 4);
         due("one is enough for one of the two", x.more(1, 4, 9), 0);
+        x.booking(0, 0, 5, 12);
+        due("the big one at home 0", x.more(3, 12, 0), 1);
+        due("none of the four is it", x.given(4, 0), 4);
+        x.booking(9, 9, 6, 4);
+        due("one of home 9", x.more(3, 4, 9), 1);
+        due("none of the four is there", x.given(4, 0), 4);
+    }
+
+    private static void promise28LaterIsBetter() {
+        WeekBoats x = new WeekBoats();
+        x.boat(12, 0, 0, 0);
+        x.boat(2, 0, 0, 0);
+        x.booking(0, 0, 0, 2);
+        x.booking(0, 0, 0, 12);
+        due("the small one for the first", x.given(2, 0), 2);
+        due("boat 1", x.given(2, 10), 1);
+        due("boat 0", x.given(2, 11), 0);
+        WeekBoats y = new WeekBoats();
+        y.boat(12, 0, 0, 0);
+        y.boat(2, 0, 0, 0);
+        int[][] bookings = {{0, 0, 2}, {0, 0, 12}, {1, 1, 2}, {1, 1, 2}, {1, 2, 2}, {1, 3, 2}};
+        for (int[] b : bookings) {
+            y.booking(b[0], 1, b[1], b[2]);
+        }
+        // boat 0 for the first would leave out the second, and one of week 1
+        due("all six", y.given(2, 0), 6);
+        int[] boats = {1, 0, 0, 1, 0, 0};
+        for (int b = 0; b < 6; b++) {
+            due("boat of " + b, y.given(2, 10 + b), boats[b]);
+        }
     }
 
     private static void promise30() {

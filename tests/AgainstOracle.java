@@ -396,7 +396,7 @@ public final class AgainstOracle {
             for (int n = below(4); n >= 0; n--) {
                 int b = below(o.boats.size() + 2);
                 int days = below(8) == 0 ? 0 : about(1, 60);
-                int date = days == 0 ? below(1000) : below(4) == 0 ? about(0, 999) : below(200);
+                int date = below(4) == 0 ? about(0, 999) : below(200);
                 due("gas(" + b + ", " + date + ", " + days + ")", one(x.gas(b, date, days)), one(o.gas(b, date, days)));
             }
         }

@@ -279,7 +279,8 @@ public final class PromisesAshore {
         for (int n = 0; n < 9; n++) {
             x.boat(4, 0, 0, 0);
         }
-        int[][] bad = {{-1, 0, 1}, {9, 0, 1}, {0, -1, 1}, {0, 1000, 1}, {0, 0, -1}, {0, 0, 61}, {9, 0, 0}};
+        int[][] bad = {{-1, 0, 1}, {9, 0, 1}, {0, -1, 1}, {0, 1000, 1}, {0, 0, -1}, {0, 0, 61}, {-1, 0, 0}, {9, 0, 0},
+            {0, -1, 0}, {0, 1000, 0}};
         for (int[] b : bad) {
             due("gas " + b[0] + " " + b[1] + " " + b[2], x.gas(b[0], b[1], b[2]), false);
         }
@@ -290,8 +291,12 @@ public final class PromisesAshore {
         due("seven others", x.gas(7, 0, 1), false);
         due("six others", x.gas(6, 0, 1), true);
         due("seven", x.dock(2), 7);
-        due("not told any more", x.gas(3, 5, 0), true);
-        due("nor told at all", x.gas(8, 5, 0), true);
+        due("not told at all, beside seven others", x.gas(8, 5, 0), true);
+        due("no date", x.gas(3, -1, 0), false);
+        due("nor this", x.gas(3, 1000, 0), false);
+        due("still seven", x.dock(2), 7);
+        due("not told any more", x.gas(3, 999, 0), true);
+        due("nor told at all", x.gas(8, 0, 0), true);
         due("six", x.dock(2), 6);
         due("now it can", x.gas(7, 0, 1), true);
         due("seven again", x.dock(2), 7);

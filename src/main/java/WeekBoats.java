@@ -446,14 +446,7 @@ public final class WeekBoats {
     }
 
     public boolean gas(int boat, int date, int days) {
-        if (!isBoat(boat)) {
-            return false;
-        }
-        if (days == 0) {
-            yard.days[boat] = 0;
-            return true;
-        }
-        if (!within(date, 0, 999) || !within(days, 1, 60)) {
+        if (!isBoat(boat) || !within(date, 0, 999) || !within(days, 0, 60)) {
             return false;
         }
         return yard.tellDock(boat, date, days);
@@ -1744,7 +1737,7 @@ public final class WeekBoats {
 
         private final int[] date = new int[BOATS];
         /** 0 of a boat that is not told for the dock. */
-        final int[] days = new int[BOATS];
+        private final int[] days = new int[BOATS];
         int docked;
         private final int[] dockBoat = new int[DOCKED];
         /* Of each set of boats that are done already: the best that the others can come to. */
@@ -1761,16 +1754,21 @@ public final class WeekBoats {
         int over;
 
         boolean tellDock(int boat, int date, int days) {
-            int others = 0;
-            for (int i = 0; i < BOATS; i++) {
-                others += i != boat && this.days[i] > 0 ? 1 : 0;
-            }
-            if (others >= DOCKED) {
+            // Who is not told any more takes no place, so that the others are not in its way.
+            if (days > 0 && othersInDock(boat) >= DOCKED) {
                 return false;
             }
             this.date[boat] = date;
             this.days[boat] = days;
             return true;
+        }
+
+        private int othersInDock(int boat) {
+            int others = 0;
+            for (int i = 0; i < BOATS; i++) {
+                others += i != boat && days[i] > 0 ? 1 : 0;
+            }
+            return others;
         }
 
         /** When those of a set are done is the same in every order: so the best is made from the end. */

@@ -1418,12 +1418,12 @@ public final class AgainstOracle {
             if (!known(b) || !in(date, 0, 999) || !in(days, 0, 60)) {
                 return false;
             }
+            if (!dock.containsKey(b) && dock.size() == 7) {
+                return false;
+            }
             if (days == 0) {
                 dock.remove(b);
                 return true;
-            }
-            if (!dock.containsKey(b) && dock.size() == 7) {
-                return false;
             }
             dock.put(b, new int[] {date, days});
             return true;

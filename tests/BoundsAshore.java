@@ -446,6 +446,8 @@ public final class BoundsAshore {
         due("60 days each", x.dock(1), 60 * 28);
         due("an eighth", x.gas(2, 999, 1), false);
         due("a ninth", x.gas(0, 999, 1), false);
+        due("nor with no days", x.gas(2, 999, 0), false);
+        due("nor the ninth so", x.gas(0, 0, 0), false);
         due("seven", x.dock(2), 7);
         due("one of the seven anew", x.gas(3, 999, 1), true);
         due("seven", x.dock(2), 7);
@@ -453,6 +455,8 @@ public final class BoundsAshore {
         due("one less", x.gas(9, 999, 0), true);
         due("the last of six", x.dock(15), 8);
         due("no seventh", x.dock(16), NONE);
+        due("with no days beside six", x.gas(2, 999, 0), true);
+        due("six", x.dock(2), 6);
         due("now it can", x.gas(2, 999, 1), true);
         due("the first of the two", x.dock(10), 2);
         due("not the one that is gone", x.gas(9, 999, 1), false);

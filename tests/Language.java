@@ -74,6 +74,10 @@ public final class Language {
             && text.replaceAll("Arrays\\.fill", "").replace("java.util.Arrays;", "").indexOf("Arrays.") < 0,
             "of the library only what is listed");
         must(!text.matches("(?s).*\\bwhile\\b.*"), "loops that count");
+        must(!text.matches("(?s).*\\b(Integer|Long|Math)\\.[A-Z].*"), "of Integer, Long and Math only the functions");
+        for (String line : text.split("\n")) {
+            must(!line.matches(".*[&|^]=.*(==|!=| < | > |<=|>=|&&|\\|\\||true|false).*"), "&& and || of conditions: " + line);
+        }
     }
 
     private static void face() {

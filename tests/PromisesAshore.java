@@ -291,7 +291,7 @@ public final class PromisesAshore {
         due("seven others", x.gas(7, 0, 1), false);
         due("six others", x.gas(6, 0, 1), true);
         due("seven", x.dock(2), 7);
-        due("not told at all, beside seven others", x.gas(8, 5, 0), true);
+        due("not told at all, beside seven others", x.gas(8, 5, 0), false);
         due("no date", x.gas(3, -1, 0), false);
         due("nor this", x.gas(3, 1000, 0), false);
         due("still seven", x.dock(2), 7);

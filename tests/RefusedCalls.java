@@ -306,6 +306,7 @@ public final class RefusedCalls {
         no(all, "one more at the lock", x -> x.queue(9999, 1));
         no(all, "a booking more", x -> x.booking(0, 0, 5, 2));
         isFalse(all, "an eighth boat in the dock", x -> one(x.gas(8, 40, 3)));
+        isFalse(all, "an eighth boat, not told any more", x -> one(x.gas(8, 40, 0)));
         no(all, "a job more", x -> x.job(30));
         no(all, "a call more", x -> x.call(9999, 1, 9));
         return all;

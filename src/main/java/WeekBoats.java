@@ -25,6 +25,7 @@ public final class WeekBoats {
     private static final int ASKED_BOATS = 4;
     private static final int DOCKED = 7;
     private static final int JOBS = 8;
+    private static final int LONGEST_JOB = 300;
     private static final int HANDS = 3;
     private static final int CALLS = 12;
     private static final int LEVELS = 1000;
@@ -467,7 +468,7 @@ public final class WeekBoats {
             yard.jobs = 0;
             return 0;
         }
-        if (!within(minutes, 1, 300)) {
+        if (!within(minutes, 1, LONGEST_JOB)) {
             return NONE;
         }
         return yard.addJob(minutes);
@@ -1678,11 +1679,15 @@ public final class WeekBoats {
 
         /** Whether a boat can be where the booking begins: from home, or by one of an earlier week. */
         private boolean canCome(int boat, int booking) {
-            boolean can = boatHome[boat] == from[booking];
-            for (int i = 0; i < count; i++) {
-                can |= week[i] < week[booking] && to[i] == from[booking];
+            if (boatHome[boat] == from[booking]) {
+                return true;
             }
-            return can;
+            for (int i = 0; i < count; i++) {
+                if (week[i] < week[booking] && to[i] == from[booking]) {
+                    return true;
+                }
+            }
+            return false;
         }
 
         /** Ways come in their order, so that only a better one takes the best one's place. */
@@ -1754,8 +1759,8 @@ public final class WeekBoats {
         int over;
 
         boolean tellDock(int boat, int date, int days) {
-            // Who is not told any more takes no place, so that the others are not in its way.
-            if (days > 0 && othersInDock(boat) >= DOCKED) {
+            // Seven others refuse it with no days, too: the document makes no difference.
+            if (othersInDock(boat) >= DOCKED) {
                 return false;
             }
             this.date[boat] = date;
@@ -1850,7 +1855,7 @@ public final class WeekBoats {
 
         void shareBest(int hands) {
             Arrays.fill(handEnd, BEGIN);
-            bestEnd = Integer.MAX_VALUE;
+            bestEnd = BEGIN + JOBS * LONGEST_JOB + 1;
             shareNext(this, 0, hands, BEGIN);
         }
 
